@@ -285,9 +285,6 @@ public final class FosterSons {
         if (!isYear(year)) {
             return OUTSIDE;
         }
-        if (readings.count >= MOST_READINGS) {
-            return FULL;
-        }
         return readings.note(c, year, was);
     }
 
@@ -628,7 +625,7 @@ public final class FosterSons {
 
         /** How far the next code is beyond the first that may be; NONE: it isn't taken. */
         int takesDigit(int first, int last) {
-            if (isAtEnd() || codes[place] < first || codes[place] > last) {
+            if (place >= length || codes[place] < first || codes[place] > last) {
                 return NONE;
             }
             int beyond = codes[place] - first;
@@ -729,7 +726,8 @@ public final class FosterSons {
 
         /** STAKE of a SON, if he were of that kind and away for so many YEARS. */
         int costOf(int s, int asKind, int away) {
-            int left = Math.max(0, worth[s] - fond[s] * away);
+            int lessened = worth[s] - fond[s] * away;
+            int left = lessened < 0 ? 0 : lessened;
             switch (asKind) {
                 case PAGE:
                     return left / 2;
@@ -836,10 +834,10 @@ public final class FosterSons {
         int count = 0;
 
         int note(int c, int inYear, boolean wasTempted) {
-            int number = count;
-            if (number >= MOST_READINGS) {
+            if (count >= MOST_READINGS) {
                 return FULL;
             }
+            int number = count;
             court[number] = c;
             year[number] = inYear;
             was[number] = wasTempted;

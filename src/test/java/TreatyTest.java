@@ -12,6 +12,7 @@ public final class TreatyTest {
         placesAreOfTheText();
         faultyTextChangesNothing();
         takenTextMakesAllAnew();
+        lesserTreatyForgetsTheGreater();
         sons();
         gains();
         CHECK.end();
@@ -112,6 +113,9 @@ public final class TreatyTest {
         treatyFaults(x, 0, 0, Integer.MAX_VALUE, 1, -13, 3);
         treatyFaults(x, 0, 0, Integer.MIN_VALUE, Integer.MIN_VALUE, -14, 4);
         treatyFaults(x, 0, 0, 12, 0, -100, 0);
+        Check.lay(x, 2, 2, new int[60]);
+        treatyFaults(x, 2, 2, 0, 60, -100, 0);
+        treatyFaults(x, 2, 2, 0, 61, -13, 3);
         CHECK.due("still there", x.many(0), 1);
     }
 
@@ -164,6 +168,20 @@ public final class TreatyTest {
         CHECK.due("the sheet stays", x.cell(0, 0, 0), 'x');
         CHECK.due("the lost sheet's treaty", x.lose(0), 1);
         CHECK.due("stays", x.gain(0, 0), 7);
+    }
+
+    private static void lesserTreatyForgetsTheGreater() {
+        FosterSons x = Check.with("x46/999999/999999/999999/999999,s090,s190,s290,s390,s090");
+        for (int again = 0; again < 2; again++) {
+            CHECK.due("taken", Check.take(x, "x21/0/0,s190"), 1);
+            CHECK.due("broken", x.broken(0), FosterSons.NONE);
+            CHECK.due("tempted", x.tempted(0), 0);
+            CHECK.due("hole", x.hole(0), FosterSons.NONE);
+            CHECK.due("least", x.least(), 0);
+            CHECK.due("when", x.when(0), 1);
+            CHECK.due("odds", x.odds(0, 0), 0);
+            CHECK.due("sons", x.many(0), 1);
+        }
     }
 
     private static void sons() {
