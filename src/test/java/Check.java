@@ -39,6 +39,15 @@ final class Check {
         }
     }
 
+    /** The first n cells of a SHEET, told as one text. */
+    static String row(FosterSons x, int k, int lane, int n) {
+        StringBuilder all = new StringBuilder();
+        for (int i = 0; i < n; i++) {
+            all.append(x.cell(k, i, lane)).append(' ');
+        }
+        return all.toString();
+    }
+
     static int[] codes(String text) {
         return text.chars().toArray();
     }

@@ -98,27 +98,19 @@ public final class PartsTest {
         after(x, "cell(0, -1, 1)", x.cell(0, -1, 1), LOST, 3);
     }
 
-    private static String row(FosterSons x, int k, int lane, int n) {
-        StringBuilder all = new StringBuilder();
-        for (int i = 0; i < n; i++) {
-            all.append(x.cell(k, i, lane)).append(' ');
-        }
-        return all.toString();
-    }
-
     private static void copying() {
         FosterSons x = new FosterSons();
         Check.lay(x, 0, 0, 1, 2, 3, 4, 5);
         Check.lay(x, 1, 0, 9, 9, 9);
         after(x, "copy", x.copy(0, 3, 1, 0, 2), 2, 0);
-        CHECK.due("copied", row(x, 1, 0, 3), "4 5 9 ");
+        CHECK.due("copied", Check.row(x, 1, 0, 3), "4 5 9 ");
         CHECK.due("up", x.copy(0, 0, 0, 1, 4), 4);
-        CHECK.due("as they were", row(x, 0, 0, 5), "1 1 2 3 4 ");
+        CHECK.due("as they were", Check.row(x, 0, 0, 5), "1 1 2 3 4 ");
         CHECK.due("down", x.copy(0, 1, 0, 0, 4), 4);
-        CHECK.due("as they were", row(x, 0, 0, 5), "1 2 3 4 4 ");
+        CHECK.due("as they were", Check.row(x, 0, 0, 5), "1 2 3 4 4 ");
         CHECK.due("none, at the ends", x.copy(0, 5, 1, 3, 0), 0);
         CHECK.due("the other is another row", x.put(0, 3, 7), 1);
-        CHECK.due("it stays", row(x, 1, 0, 3), "4 5 9 ");
+        CHECK.due("it stays", Check.row(x, 1, 0, 3), "4 5 9 ");
     }
 
     private static void copyFaults() {
@@ -140,7 +132,7 @@ public final class PartsTest {
         for (int[] w : wrong) {
             after(x, "copy(0, " + w[0] + ", 2, " + w[1] + ", " + w[2] + ")", x.copy(0, w[0], 2, w[1], w[2]), -13, 3);
         }
-        CHECK.due("nothing changed", row(x, 2, 0, 2), "7 8 ");
+        CHECK.due("nothing changed", Check.row(x, 2, 0, 2), "7 8 ");
     }
 
     private static void telling() {
